@@ -498,8 +498,9 @@ public final class ScrubbedRecorder {
     }
 
     /**
-     * A store that is made. Packets leave only from the front, page by page, so the kept ones
-     * always have the last positions below the next one, without a gap.
+     * A store that is made; the face has null for one that is not. Packets leave only from the
+     * front, page by page, so the kept ones always have the last positions below the next one,
+     * without a gap.
      */
     private static final class Store {
         private final int number;
@@ -732,7 +733,7 @@ public final class ScrubbedRecorder {
         }
     }
 
-    /** A playback that is open. */
+    /** A playback that is open; the face has null for one that is not. */
     private static final class Playback {
         private final int from;
         private final int to;

@@ -11,6 +11,7 @@ public final class Promise05RecordTest {
         aBoundedStoreIsPrunedBehindIt();
         writingMakesWordsSound();
         openingWritesAllWords();
+        allPagesCanBeOpened();
         due.end();
     }
 
@@ -170,5 +171,22 @@ public final class Promise05RecordTest {
         }
         x.record(0, 1, 1, 0);
         due.is("all of page 0 and its parity", x.told(4), 51 - 32);
+    }
+
+    private static void allPagesCanBeOpened() {
+        ScrubbedRecorder x = new ScrubbedRecorder();
+        x.makeStore(0, false, 37);
+        x.makeStore(1, true, 3);
+        for (int n = 0; n < 40; n++) {
+            due.is("13 words", x.record(n < 3 ? 1 : 0, n, n, 44), n < 3 ? n : n - 3);
+        }
+        due.is("free pages", x.told(2), 0);
+        due.is("the bounded store is full", x.record(0, 1, 40, 0), ScrubbedRecorder.FULL);
+        due.is("the circular one frees a page", x.record(1, 1, 40, 0), 3);
+        due.is("free pages", x.told(2), 0);
+        due.is("pages", x.count(0, 3), 37);
+        due.is("kept", x.count(0, 0), 37);
+        due.is("pages", x.count(1, 3), 3);
+        due.is("kept", x.count(1, 0), 3);
     }
 }
