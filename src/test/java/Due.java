@@ -1,16 +1,25 @@
 /** Counts and prints the answers that are not as due; a test ends with it. */
 final class Due {
     private final String test;
+    private String sentence = "";
     private int wrong;
 
     Due(String test) {
         this.test = test;
     }
 
+    /**
+     * Begins the test of a sentence, quoted as it stands in the document. SentencesTest reads
+     * these quotes: each must stand there, and no sentence that promises something may be left out.
+     */
+    void says(String quote) {
+        sentence = quote;
+    }
+
     void is(String call, long got, long want) {
         if (got != want) {
             wrong++;
-            System.out.println(test + ": " + call + " answered " + got + ", due is " + want);
+            System.out.println(test + ", \"" + sentence + "\": " + call + " answered " + got + ", due is " + want);
         }
     }
 

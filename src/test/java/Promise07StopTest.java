@@ -3,20 +3,50 @@ public final class Promise07StopTest {
     private static final Due due = new Due("promise 7");
 
     public static void main(String[] args) {
-        ScrubbedRecorder x = new ScrubbedRecorder();
-        x.makeStore(0, true, 3);
-        x.record(0, 1, 1, 0);
-        due.no("not open", x.stop(0));
-        due.no("p -1", x.stop(-1));
-        due.no("p 4", x.stop(4));
-        due.no("least int", x.stop(Integer.MIN_VALUE));
+        openNoMore();
+        theOthersGoOn();
+        refused();
+        due.end();
+    }
+
+    private static void openNoMore() {
+        due.says("A playback is open no more.");
+        ScrubbedRecorder x = Rig.withPackets(true, 3, 1, 0);
         x.play(0, 0, 9, 0);
         due.is("it sends", x.frame(), 11);
-        due.no("another one", x.stop(1));
-        due.yes("open", x.stop(0));
-        due.no("open no more", x.stop(0));
+        due.yes("stop", x.stop(0));
         due.is("it sends no more", x.frame(), ScrubbedRecorder.NONE);
-        due.is("the frame stays", x.frameByte(5), 1);
-        due.end();
+        due.is("the frame stays", x.frameByte(10), 0);
+    }
+
+    private static void theOthersGoOn() {
+        due.says("A playback is open no more.");
+        ScrubbedRecorder x = Rig.withPackets(true, 3, 4, 0);
+        for (int p = 0; p < 4; p++) {
+            x.play(0, p, p, p);
+        }
+        for (int p = 0; p < 4; p++) {
+            due.is("the first that is open", Rig.nextSent(x), p);
+            due.yes("stop", x.stop(p));
+        }
+        due.is("none is open", x.frame(), ScrubbedRecorder.NONE);
+    }
+
+    private static void refused() {
+        due.says("Answers true; false, refused, when it is not open.");
+        ScrubbedRecorder x = Rig.withStore(true, 3);
+        int[] wrong = {-1, 0, 3, 4, Integer.MIN_VALUE, Integer.MAX_VALUE};
+        for (int p : wrong) {
+            due.no("none is open: " + p, x.stop(p));
+        }
+        for (int p = 0; p < 4; p++) {
+            x.play(0, 0, 9, 0);
+        }
+        due.no("all are open: -1", x.stop(-1));
+        due.no("all are open: 4", x.stop(4));
+        for (int p = 3; p >= 0; p--) {
+            due.yes("open: " + p, x.stop(p));
+            due.no("open no more: " + p, x.stop(p));
+        }
     }
 }

@@ -4,14 +4,18 @@ public final class Promise13PacketByteTest {
 
     public static void main(String[] args) {
         whatTellsAPacket();
+        anEmptyPacket();
+        confirmedPacketsAreThere();
         noSuchPacket();
-        flipsAndLostModulesDoNotHarm();
+        noSuchByte();
+        flippedBitsDoNoHarm();
+        lostModulesDoNoHarm();
         due.end();
     }
 
     private static void whatTellsAPacket() {
-        ScrubbedRecorder x = new ScrubbedRecorder();
-        x.makeStore(0, true, 3);
+        due.says("Byte i of those that tell a packet; NONE when there is no such packet kept or no such byte.");
+        ScrubbedRecorder x = Rig.withStore(true, 3);
         x.put(0, 0x04030201FFFE807FL);
         x.record(0, 254, 0x01C2A304, 7);
         x.put(0, 0L);
@@ -20,72 +24,105 @@ public final class Promise13PacketByteTest {
             due.is("byte " + i, x.packetByte(0, 0, i), want[i]);
         }
         due.is("byte behind the last", x.packetByte(0, 0, 13), ScrubbedRecorder.NONE);
-        due.is("byte -1", x.packetByte(0, 0, -1), ScrubbedRecorder.NONE);
-        due.is("least int", x.packetByte(0, 0, Integer.MIN_VALUE), ScrubbedRecorder.NONE);
-        due.is("greatest int", x.packetByte(0, 0, Integer.MAX_VALUE), ScrubbedRecorder.NONE);
+    }
+
+    private static void anEmptyPacket() {
+        due.says("Byte i of those that tell a packet; NONE when there is no such packet kept or no such byte.");
+        ScrubbedRecorder x = Rig.withStore(true, 3);
+        x.put(0, -1L);
         x.record(0, 0, Integer.MAX_VALUE, 0);
-        due.is("highest byte of the time", x.packetByte(0, 1, 1), 127);
-        due.is("an empty packet has 6 bytes", x.packetByte(0, 1, 5), 0);
-        due.is("and no more", x.packetByte(0, 1, 6), ScrubbedRecorder.NONE);
+        int[] want = {0, 127, 255, 255, 255, 0};
+        for (int i = 0; i < want.length; i++) {
+            due.is("byte " + i, x.packetByte(0, 0, i), want[i]);
+        }
+        due.is("no byte more", x.packetByte(0, 0, 6), ScrubbedRecorder.NONE);
+    }
+
+    private static void confirmedPacketsAreThere() {
+        due.says("Byte i of those that tell a packet; NONE when there is no such packet kept or no such byte.");
+        ScrubbedRecorder x = Rig.withPackets(true, 3, 3, 0);
+        x.confirm(0, 0, 2);
+        for (int position = 0; position < 3; position++) {
+            due.is("packet " + position, x.packetByte(0, position, 0), position);
+        }
     }
 
     private static void noSuchPacket() {
-        ScrubbedRecorder x = new ScrubbedRecorder();
-        due.is("not made", x.packetByte(0, 0, 0), ScrubbedRecorder.NONE);
-        due.is("k -1", x.packetByte(-1, 0, 0), ScrubbedRecorder.NONE);
-        due.is("k 4", x.packetByte(4, 0, 0), ScrubbedRecorder.NONE);
-        x.makeStore(0, true, 3);
+        due.says("NONE when there is no such packet kept or no such byte.");
+        ScrubbedRecorder x = Rig.withStore(true, 3);
         due.is("none yet", x.packetByte(0, 0, 0), ScrubbedRecorder.NONE);
-        for (int n = 0; n < 4; n++) {
-            x.record(0, n, n, 44);
+        Rig.recordMore(x, 0, 4, Rig.PAGE);
+        int[] stores = {-1, 1, 2, 3, 4, Integer.MIN_VALUE, Integer.MAX_VALUE};
+        for (int k : stores) {
+            due.is("store " + k, x.packetByte(k, 1, 0), ScrubbedRecorder.NONE);
         }
-        due.is("freed", x.packetByte(0, 0, 0), ScrubbedRecorder.NONE);
+        int[] positions = {-1, 0, 4, Integer.MIN_VALUE, Integer.MAX_VALUE};
+        for (int position : positions) {
+            due.is("position " + position, x.packetByte(0, position, 0), ScrubbedRecorder.NONE);
+        }
         due.is("least kept", x.packetByte(0, 1, 0), 1);
         due.is("last", x.packetByte(0, 3, 0), 3);
-        due.is("above all", x.packetByte(0, 4, 0), ScrubbedRecorder.NONE);
-        due.is("below all", x.packetByte(0, -1, 0), ScrubbedRecorder.NONE);
-        due.is("least int", x.packetByte(0, Integer.MIN_VALUE, 0), ScrubbedRecorder.NONE);
-        due.is("greatest int", x.packetByte(0, Integer.MAX_VALUE, 0), ScrubbedRecorder.NONE);
-        x.confirm(0, 3, 3);
-        due.is("a confirmed one that is kept", x.packetByte(0, 3, 0), 3);
+        x.dropStore(0);
+        due.is("dropped", x.packetByte(0, 3, 0), ScrubbedRecorder.NONE);
     }
 
-    private static void flipsAndLostModulesDoNotHarm() {
-        ScrubbedRecorder x = new ScrubbedRecorder();
-        x.makeStore(0, true, 40);
-        for (int i = 0; i < 60; i += 8) {
-            x.put(i, 0x0102030405060708L * (i + 1));
+    private static void noSuchByte() {
+        due.says("NONE when there is no such packet kept or no such byte.");
+        ScrubbedRecorder x = Rig.withStore(true, 3);
+        x.record(0, 1, 1, 60);
+        x.record(0, 1, 1, 4);
+        int[] wrong = {-1, 66, Integer.MIN_VALUE, Integer.MAX_VALUE};
+        for (int i : wrong) {
+            due.is("byte " + i, x.packetByte(0, 0, i), ScrubbedRecorder.NONE);
+            due.is("byte " + i + " of a shorter one", x.packetByte(0, 1, i), ScrubbedRecorder.NONE);
         }
-        for (int n = 0; n < 20; n++) {
+        due.is("its last", x.packetByte(0, 0, 65), 0);
+        due.is("the last of the shorter one", x.packetByte(0, 1, 9), 0);
+        due.is("behind that", x.packetByte(0, 1, 10), ScrubbedRecorder.NONE);
+    }
+
+    /** Three packets of 60 bytes, in the words 3 .. 15 of pages 0 to 3. */
+    private static ScrubbedRecorder withBytes() {
+        ScrubbedRecorder x = Rig.withStore(true, 40);
+        for (int i = 0; i < 60; i++) {
+            x.put(i, 3 * i + 1);
+        }
+        for (int n = 0; n < 3; n++) {
             x.record(0, n, n, 60);
         }
-        int[] before = bytesOf(x, 20);
-        for (int word = 0; word < 128; word++) {
-            x.flip(word % 6, word, word % 39);
-            x.flip(word % 6, word, (word + 7) % 39);
-        }
-        same("with flipped bits", before, bytesOf(x, 20));
-        x.tick(768);
-        x.latch(2);
-        same("with a module off", before, bytesOf(x, 20));
-        x.power(2);
-        same("with a blank module", before, bytesOf(x, 20));
-        x.tick(0);
-        x.reset();
-        same("behind a reset", before, bytesOf(x, 20));
+        return x;
     }
 
-    private static int[] bytesOf(ScrubbedRecorder x, int packets) {
-        int[] bytes = new int[packets * 66];
-        for (int n = 0; n < bytes.length; n++) {
-            bytes[n] = x.packetByte(0, n / 66, n % 66);
+    private static void tellsWithBytes(String when, ScrubbedRecorder x) {
+        for (int n = 0; n < 3; n++) {
+            due.is("source " + when, x.packetByte(0, n, 0), n);
+            for (int i = 0; i < 60; i++) {
+                due.is("byte " + i + " " + when, x.packetByte(0, n, 6 + i), 3 * i + 1 & 255);
+            }
         }
-        return bytes;
     }
 
-    private static void same(String when, int[] want, int[] got) {
-        for (int n = 0; n < want.length; n++) {
-            due.is("byte " + n + " " + when, got[n], want[n]);
+    private static void flippedBitsDoNoHarm() {
+        due.says("Byte i of those that tell a packet; NONE when there is no such packet kept or no such byte.");
+        ScrubbedRecorder x = withBytes();
+        for (int word = 3; word < 16; word++) {
+            Rig.flipTwo(x, 1 + word % 4, word);
+            x.flip(1 + (word + 1) % 4, word, word);
+        }
+        tellsWithBytes("with flipped bits", x);
+    }
+
+    private static void lostModulesDoNoHarm() {
+        due.says("Byte i of those that tell a packet; NONE when there is no such packet kept or no such byte.");
+        for (int module = 0; module < 6; module++) {
+            ScrubbedRecorder x = withBytes();
+            x.latch(module);
+            tellsWithBytes("with a module off", x);
+            ScrubbedRecorder y = withBytes();
+            y.latch(module);
+            y.power(module);
+            y.tick(0);
+            tellsWithBytes("with a module rebuilt", y);
         }
     }
 }

@@ -3,44 +3,107 @@ public final class Promise21ToldTest {
     private static final Due due = new Due("promise 21");
 
     public static void main(String[] args) {
-        ScrubbedRecorder x = new ScrubbedRecorder();
-        due.is("what -1", x.told(-1), ScrubbedRecorder.BAD);
-        due.is("what 5", x.told(5), ScrubbedRecorder.BAD);
-        due.is("least int", x.told(Integer.MIN_VALUE), ScrubbedRecorder.BAD);
-        tells(x, 0, 0, 40, 0, 0);
-        x.makeStore(0, true, 3);
-        x.makeStore(1, false, 9);
-        tells(x, 0, 0, 40, 0, 0);
-        x.record(0, 1, 1, 60);
-        x.record(1, 1, 1, 0);
-        tells(x, 0, 0, 37, 0, 0);
-        x.flip(0, 100, 0);
-        x.flip(1, 100, 0);
-        x.flip(1, 100, 1);
-        x.flip(5, 127, 38);
-        tells(x, 0, 0, 37, 0, 3);
-        x.tick(300);
-        tells(x, 1, 1, 37, 0, 1);
-        x.latch(4);
-        tells(x, 1, 1, 37, 8, 1);
-        x.power(4);
-        tells(x, 1, 1, 37, 8, 1);
-        x.tick(468);
-        tells(x, 2, 1, 37, 7, 0);
-        x.reset();
-        tells(x, 2, 1, 37, 7, 0);
-        x.dropStore(0);
-        tells(x, 2, 1, 39, 7, 0);
-        for (int row = 0; row < 7; row++) {
-            x.tick(0);
-        }
-        tells(x, 2, 1, 39, 0, 0);
+        wordsCorrected();
+        wordsMended();
+        freePages();
+        rowsOffOrBlank();
+        wordsWithFlippedBits();
+        noSuchWhat();
         due.end();
     }
 
-    private static void tells(ScrubbedRecorder x, int... want) {
-        for (int what = 0; what < want.length; what++) {
-            due.is("told(" + what + ")", x.told(what), want[what]);
+    private static void wordsCorrected() {
+        due.says("What = 0: how many words were corrected in all (reset or not)");
+        ScrubbedRecorder x = new ScrubbedRecorder();
+        due.is("at first", x.told(0), 0);
+        x.flip(0, 0, 0);
+        x.flip(5, 127, 0);
+        x.tick(1);
+        due.is("one", x.told(0), 1);
+        x.reset();
+        due.is("reset", x.told(0), 1);
+        x.tick(768);
+        due.is("two", x.told(0), 2);
+        x.flip(0, 0, 0);
+        x.flip(0, 0, 0);
+        x.tick(768);
+        due.is("a bit that flipped back is not corrected", x.told(0), 2);
+    }
+
+    private static void wordsMended() {
+        due.says("1: how many were mended");
+        ScrubbedRecorder x = new ScrubbedRecorder();
+        due.is("at first", x.told(1), 0);
+        Rig.flipTwo(x, 0, 0);
+        Rig.flipTwo(x, 5, 127);
+        x.tick(1);
+        due.is("one", x.told(1), 1);
+        x.reset();
+        due.is("reset", x.told(1), 1);
+        x.tick(768);
+        due.is("two", x.told(1), 2);
+        due.is("none was corrected", x.told(0), 0);
+    }
+
+    private static void freePages() {
+        due.says("2: how many pages are free");
+        ScrubbedRecorder x = Rig.withStore(true, 3);
+        x.makeStore(1, false, 37);
+        due.is("all", x.told(2), 40);
+        x.record(0, 1, 1, 60);
+        x.record(1, 1, 1, 0);
+        due.is("all but three", x.told(2), 37);
+        Rig.recordMore(x, 0, 3, Rig.PAGE);
+        due.is("a full chain", x.told(2), 36);
+        Rig.recordMore(x, 1, 36, Rig.PAGE);
+        due.is("none", x.told(2), 0);
+        x.dropStore(1);
+        due.is("dropped", x.told(2), 37);
+    }
+
+    private static void rowsOffOrBlank() {
+        due.says("3: in how many rows a module is off (all 8) or blank");
+        ScrubbedRecorder x = new ScrubbedRecorder();
+        due.is("none", x.told(3), 0);
+        x.latch(4);
+        due.is("off", x.told(3), 8);
+        x.tick(10);
+        due.is("off still", x.told(3), 8);
+        x.power(4);
+        for (int row = 0; row < 8; row++) {
+            due.is("blank", x.told(3), 8 - row);
+            x.tick(10);
+        }
+        due.is("none", x.told(3), 0);
+    }
+
+    private static void wordsWithFlippedBits() {
+        due.says("4: how many words have flipped bits.");
+        ScrubbedRecorder x = new ScrubbedRecorder();
+        due.is("none", x.told(4), 0);
+        x.flip(0, 0, 38);
+        due.is("the first word", x.told(4), 1);
+        x.flip(5, 127, 0);
+        due.is("the last word", x.told(4), 2);
+        x.flip(5, 127, 31);
+        due.is("a word with two counts once", x.told(4), 2);
+        x.flip(5, 127, 0);
+        due.is("a word with one of them left", x.told(4), 2);
+        x.flip(5, 127, 31);
+        due.is("a word without any", x.told(4), 1);
+        x.latch(0);
+        due.is("a missing word has none", x.told(4), 0);
+    }
+
+    private static void noSuchWhat() {
+        due.says("BAD when what is not 0 .. 4.");
+        ScrubbedRecorder x = new ScrubbedRecorder();
+        int[] wrong = {-1, 5, 6, Integer.MIN_VALUE, Integer.MAX_VALUE};
+        for (int what : wrong) {
+            due.is("what " + what, x.told(what), ScrubbedRecorder.BAD);
+        }
+        for (int what = 0; what < 5; what++) {
+            due.yes("what " + what, x.told(what) >= 0);
         }
     }
 }

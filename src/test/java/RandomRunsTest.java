@@ -1,10 +1,12 @@
 /**
- * Holds the class against PlainModel in many runs of 512 calls. The runs are drawn from a fixed
- * row of numbers, so that each time they are the same ones.
+ * Holds the class against PlainModel in many runs of 512 calls, as many as an object is good for.
+ * The runs are drawn from a fixed row of numbers, so that each time they are the same ones.
  */
 public final class RandomRunsTest {
-    private static final int RUNS = 400;
+    private static final int RUNS = 800;
     private static final int CALLS = 512;
+    /** So many calls at the end of a run, or a few less, look at the state that it has reached. */
+    private static final int LAST_LOOK = 150;
 
     /** How often each call comes, by kinds of runs: the calls are in the order of the face. */
     private static final int[][] WEIGHTS = {
@@ -20,6 +22,7 @@ public final class RandomRunsTest {
     private final boolean dense;
     private final int[] weights;
     private long seed;
+    private int calls;
     private String call;
 
     private RandomRunsTest(int run) {
@@ -31,17 +34,20 @@ public final class RandomRunsTest {
     public static void main(String[] args) {
         for (int run = 0; run < RUNS; run++) {
             RandomRunsTest test = new RandomRunsTest(run);
-            for (int n = 0; n < CALLS; n++) {
-                if (!test.callAgrees(n)) {
-                    System.out.println("run " + run + ", call " + n + ": " + test.call);
-                    System.exit(1);
-                }
-            }
-            if (!test.stateAgrees()) {
-                System.out.println("run " + run + ", at its end: " + test.call);
+            if (!test.agrees()) {
+                System.out.println("run " + run + ", call " + test.calls + ": " + test.call);
                 System.exit(1);
             }
         }
+    }
+
+    private boolean agrees() {
+        while (calls < CALLS - LAST_LOOK) {
+            if (!callAgrees()) {
+                return false;
+            }
+        }
+        return stateAgrees();
     }
 
     private int draw(int bound) {
@@ -97,8 +103,8 @@ public final class RandomRunsTest {
         return chosen;
     }
 
-    private boolean callAgrees(int n) {
-        int chosen = n < 2 ? 0 : chooseCall();
+    private boolean callAgrees() {
+        int chosen = calls < 2 ? 0 : chooseCall();
         switch (chosen) {
             case 0: return make();
             case 1: return draw(4) != 0 || drop();
@@ -106,7 +112,7 @@ public final class RandomRunsTest {
             case 3: return recordOne();
             case 4: return playOne();
             case 5: return stopOne();
-            case 6: return same("frame", x.frame(), y.frame()) && frameAgrees();
+            case 6: return same("frame", x.frame(), y.frame()) && someOfTheFrameAgrees();
             case 7: return askAgain();
             case 8: return confirmSome();
             case 9: return seekOne();
@@ -124,6 +130,7 @@ public final class RandomRunsTest {
     }
 
     private boolean same(String name, long got, long want) {
+        calls++;
         call = name + " answered " + got + ", due is " + want;
         return got == want;
     }
@@ -145,7 +152,7 @@ public final class RandomRunsTest {
 
     private boolean drop() {
         int k = store();
-        return same(text("dropStore", k), x.dropStore(k), y.dropStore(k)) && stateAgrees();
+        return same(text("dropStore", k), x.dropStore(k), y.dropStore(k)) && countsAgree();
     }
 
     private boolean put() {
@@ -176,13 +183,9 @@ public final class RandomRunsTest {
         return same(text("stop", p), x.stop(p), y.stop(p));
     }
 
-    private boolean frameAgrees() {
-        for (int i = -1; i < 73; i++) {
-            if (!same(text("frameByte", i), x.frameByte(i), y.frameByte(i))) {
-                return false;
-            }
-        }
-        return true;
+    private boolean someOfTheFrameAgrees() {
+        int i = draw(2) == 0 ? 4 : near(0, 70);
+        return same(text("frameByte", i), x.frameByte(i), y.frameByte(i));
     }
 
     private boolean askAgain() {
@@ -256,13 +259,18 @@ public final class RandomRunsTest {
     }
 
     private boolean resetOnce() {
+        calls++;
         x.reset();
         y.reset();
-        return stateAgrees();
+        return countsAgree();
     }
 
     private boolean stateAgrees() {
-        for (int what = -1; what < 6; what++) {
+        return countsAgree() && packetsAgree();
+    }
+
+    private boolean countsAgree() {
+        for (int what = 0; what < 6; what++) {
             if (!same(text("told", what), x.told(what), y.told(what))) {
                 return false;
             }
@@ -272,18 +280,13 @@ public final class RandomRunsTest {
                 }
             }
         }
-        return frameAgrees() && packetsAgree();
+        return true;
     }
 
     private boolean packetsAgree() {
-        for (int k = 0; k < 4; k++) {
-            int next = y.count(k, 2);
-            for (int position = Math.max(0, next - 30); position <= next; position++) {
-                for (int i = 0; i < 67; i++) {
-                    if (!same(text("packetByte", k, position, i), x.packetByte(k, position, i), y.packetByte(k, position, i))) {
-                        return false;
-                    }
-                }
+        while (calls < CALLS) {
+            if (!readOne()) {
+                return false;
             }
         }
         return true;
