@@ -9,6 +9,7 @@ public final class Promise03DropStoreTest {
         freeingWritesWordZero();
         playbacksAreClosed();
         itSavesAll();
+        otherStoresStay();
         refused();
         due.end();
     }
@@ -92,6 +93,25 @@ public final class Promise03DropStoreTest {
         x.reset();
         due.is("what was confirmed when it was dropped", x.count(0, 1), 1);
         due.no("it is packet 0", x.gap(0, 0));
+    }
+
+    private static void otherStoresStay() {
+        due.says("A store is made no more: its pages are freed, the first one first");
+        ScrubbedRecorder x = Rig.withPackets(true, 3, 3, 20);
+        x.makeStore(1, true, 3);
+        Rig.recordMore(x, 1, 3, 20);
+        x.gap(1, 0);
+        x.gap(0, 2);
+        x.gap(1, 1);
+        x.gap(0, 1);
+        due.yes("dropStore", x.dropStore(1));
+        int[] want = {3, 0, 3, 2, 2, 2};
+        for (int what = 0; what < want.length; what++) {
+            due.is("count " + what, x.count(0, what), want[what]);
+        }
+        x.play(0, 0, 9, 0);
+        due.is("asked for first", Rig.nextSent(x), 2);
+        due.is("asked for next", Rig.nextSent(x), 1);
     }
 
     private static void refused() {

@@ -10,6 +10,7 @@ public final class Promise05RecordTest {
         aCircularStoreFreesTwoPages();
         aCircularStoreBelowItsQuotaFreesNone();
         thePageThatWasFreedIsOpenedAgain();
+        onePageAfterTheOther();
         unconfirmedPacketsAreFreed();
         aBoundedStoreIsPruned();
         theNewPacketHoldsItsPage();
@@ -126,6 +127,25 @@ public final class Promise05RecordTest {
         due.is("no page is free", y.told(2), 0);
         due.is("so it must be freed before", y.record(0, 1, 99, 60), 40);
         due.is("kept", y.count(0, 0), 39);
+    }
+
+    /**
+     * The chain is the pages 2, 0, 1. For 17 words page 2 is freed and opened, and then page 0, so
+     * that the words behind them are in page 0, in module 1; were both freed first, and then opened,
+     * they would be in page 2, in module 3.
+     */
+    private static void onePageAfterTheOther() {
+        due.says("For each page that the packet needs, a circular store whose chain has as many pages as its quota frees its first page before it opens that one.");
+        ScrubbedRecorder x = Rig.withPackets(true, 3, 5, Rig.PAGE);
+        Rig.recordMore(x, 0, 1, 60);
+        for (int module = 1; module < 6; module++) {
+            x.flip(module, 7, 0);
+        }
+        Rig.recordMore(x, 0, 1, 0);
+        int[] flipped = Rig.flippedByModule(x);
+        for (int module = 1; module < 6; module++) {
+            due.is("flipped in module " + module, flipped[module], module == 1 ? 0 : 1);
+        }
     }
 
     private static void unconfirmedPacketsAreFreed() {

@@ -21,12 +21,14 @@ public final class Promise10ConfirmTest {
         ScrubbedRecorder x = Rig.withPackets(true, 5, 6, 0);
         x.makeStore(1, true, 5);
         Rig.recordMore(x, 1, 6, 0);
+        x.gap(1, 3);
         due.is("confirm", x.confirm(0, 2, 4), 3);
         for (int position = 0; position < 6; position++) {
             boolean confirmed = position >= 2 && position <= 4;
             due.is("packet " + position, x.gap(0, position) ? 0 : 1, confirmed ? 1 : 0);
         }
         due.is("another store's are not", x.count(1, 1), 0);
+        due.is("nor are they asked for no more", x.count(1, 5), 1);
         due.is("from and to may be the same", x.confirm(0, 5, 5), 1);
     }
 

@@ -9,7 +9,10 @@ public final class Promise13PacketByteTest {
         noSuchPacket();
         noSuchByte();
         flippedBitsDoNoHarm();
+        manyFlippedBitsDoNoHarm();
+        mendingDoesNoHarm();
         lostModulesDoNoHarm();
+        recordedWhileAModuleIsLost();
         due.end();
     }
 
@@ -112,6 +115,35 @@ public final class Promise13PacketByteTest {
         tellsWithBytes("with flipped bits", x);
     }
 
+    private static void manyFlippedBitsDoNoHarm() {
+        due.says("Byte i of those that tell a packet; NONE when there is no such packet kept or no such byte.");
+        for (int worst = 0; worst < 6; worst++) {
+            ScrubbedRecorder x = withBytes();
+            for (int word = 0; word < 16; word++) {
+                Rig.flipTwo(x, worst, word);
+                for (int module = 0; module < 6; module++) {
+                    if (module != worst) {
+                        x.flip(module, word, (word + module) % 39);
+                    }
+                }
+            }
+            due.is("flipped words", x.told(4), 96);
+            tellsWithBytes("with a flipped bit everywhere", x);
+        }
+    }
+
+    private static void mendingDoesNoHarm() {
+        due.says("Byte i of those that tell a packet; NONE when there is no such packet kept or no such byte.");
+        ScrubbedRecorder x = withBytes();
+        for (int word = 0; word < 16; word++) {
+            Rig.flipTwo(x, 2, word);
+            x.flip(0, word, 7);
+        }
+        due.is("tick", x.tick(768), 32);
+        x.latch(1);
+        tellsWithBytes("mended, with another module off", x);
+    }
+
     private static void lostModulesDoNoHarm() {
         due.says("Byte i of those that tell a packet; NONE when there is no such packet kept or no such byte.");
         for (int module = 0; module < 6; module++) {
@@ -123,6 +155,26 @@ public final class Promise13PacketByteTest {
             y.power(module);
             y.tick(0);
             tellsWithBytes("with a module rebuilt", y);
+        }
+    }
+
+    /** Then another module is lost: what was recorded must have come to the first one by rebuilding. */
+    private static void recordedWhileAModuleIsLost() {
+        due.says("Byte i of those that tell a packet; NONE when there is no such packet kept or no such byte.");
+        for (int module = 0; module < 6; module++) {
+            ScrubbedRecorder x = Rig.withStore(true, 40);
+            for (int i = 0; i < 60; i++) {
+                x.put(i, 3 * i + 1);
+            }
+            x.latch(module);
+            x.record(0, 0, 0, 60);
+            x.power(module);
+            x.record(0, 1, 1, 60);
+            x.tick(0);
+            x.record(0, 2, 2, 60);
+            Rig.rebuild(x, 7);
+            x.latch((module + 1) % 6);
+            tellsWithBytes("with the next module off", x);
         }
     }
 }

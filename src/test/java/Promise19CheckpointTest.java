@@ -86,6 +86,13 @@ public final class Promise19CheckpointTest {
         due.is("two of another store", x.checkpoint(0), 16);
         Rig.recordMore(x, 3, 1, Rig.PAGE);
         due.is("one that is kept no more", x.checkpoint(0), 14);
+
+        ScrubbedRecorder y = Rig.withPackets(true, 3, 3, Rig.PAGE);
+        y.confirm(0, 0, 2);
+        Rig.recordMore(y, 0, 1, Rig.PAGE);
+        due.is("what is left of a run is a run", y.checkpoint(0), 8);
+        Rig.recordMore(y, 0, 2, Rig.PAGE);
+        due.is("until nothing is left", y.checkpoint(0), 6);
     }
 
     private static void bad() {

@@ -16,6 +16,7 @@ public final class TermsMemoryTest {
         missingWordsHaveNoFlippedBits();
         writingMakesSound();
         writingMakesTwoFlippedBitsSound();
+        writingLeavesTwoFlippedBitsElsewhere();
         writingBesideMissingWords();
         due.end();
     }
@@ -210,6 +211,20 @@ public final class TermsMemoryTest {
         Rig.flipTwo(x, 1, 4);
         x.record(0, 1, 1, 0);
         due.is("flipped words", x.told(4), 1);
+        due.is("a round of scrubbing", x.tick(768), 1);
+        due.is("mended", x.told(1), 1);
+    }
+
+    /** Page 1 is in module 2, in the same row as page 0. */
+    private static void writingLeavesTwoFlippedBitsElsewhere() {
+        due.says("When a word of a page is WRITTEN, neither it nor the word of the parity with the same number in its module has flipped bits any more.");
+        ScrubbedRecorder x = Rig.withPackets(true, 3, 1, 0);
+        Rig.flipTwo(x, 2, 5);
+        x.flip(0, 5, 0);
+        x.flip(1, 5, 0);
+        x.record(0, 1, 1, 0);
+        due.is("flipped words", x.told(4), 1);
+        due.no("it has two still", x.flip(2, 5, 2));
         due.is("a round of scrubbing", x.tick(768), 1);
         due.is("mended", x.told(1), 1);
     }
