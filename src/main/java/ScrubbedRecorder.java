@@ -29,6 +29,7 @@ public final class ScrubbedRecorder {
     private static final int ROWS = 8;
     private static final int PAGE_WORDS = 16;
     private static final int MODULE_WORDS = ROWS * PAGE_WORDS;
+    private static final int ALL_WORDS = MODULES * MODULE_WORDS;
     private static final int WORD_BITS = 39;
     private static final int ROW_PAGES = MODULES - 1;
     private static final int PAGES = ROWS * ROW_PAGES;
@@ -328,7 +329,7 @@ public final class ScrubbedRecorder {
      * its missing rows are always those from some row to the last.
      */
     private static final class Memory {
-        private final long[] flipped = new long[MODULES * MODULE_WORDS];
+        private final long[] flipped = new long[ALL_WORDS];
         private final boolean[] inChain = new boolean[PAGES];
         private int lostModule = NONE;
         private boolean lostIsOff;
@@ -391,7 +392,7 @@ public final class ScrubbedRecorder {
             int before = corrected + mended;
             for (int n = 0; n < words; n++) {
                 scrubWord(scrubNext);
-                scrubNext = (scrubNext + 1) % flipped.length;
+                scrubNext = (scrubNext + 1) % ALL_WORDS;
             }
             return corrected + mended - before;
         }
@@ -445,7 +446,7 @@ public final class ScrubbedRecorder {
 
         int countFlippedWords() {
             int words = 0;
-            for (int at = 0; at < flipped.length; at++) {
+            for (int at = 0; at < ALL_WORDS; at++) {
                 if (flipped[at] != 0) {
                     words++;
                 }

@@ -1,14 +1,21 @@
+import java.io.IOException;
 import java.lang.reflect.Constructor;
 import java.lang.reflect.Field;
 import java.lang.reflect.Method;
 import java.lang.reflect.Modifier;
+import java.nio.file.Files;
+import java.nio.file.Path;
 import java.util.Arrays;
 import java.util.Set;
 import java.util.TreeSet;
+import java.util.regex.Matcher;
+import java.util.regex.Pattern;
 
 /** The document's public face, and nothing else that can be seen from outside (LANGUAGE.md, rule 1). */
 public final class FaceTest {
     private static final Due due = new Due("the face");
+    private static final Path DOCUMENT = Path.of("..", "shared", "DOC.md");
+    private static final Pattern METHOD = Pattern.compile("public (\\w+ \\w+\\([^)]*\\));");
 
     private static final String[] METHODS = {
         "int makeStore(int, boolean, int)", "boolean dropStore(int)", "boolean put(int, long)",
@@ -19,12 +26,13 @@ public final class FaceTest {
         "boolean power(int)", "int checkpoint(int)", "void reset()", "int told(int)",
     };
 
-    public static void main(String[] args) {
+    public static void main(String[] args) throws IOException {
         due.is("the class is public and final",
             ScrubbedRecorder.class.getModifiers() & (Modifier.PUBLIC | Modifier.FINAL), Modifier.PUBLIC | Modifier.FINAL);
         constants();
         constructors();
         methods();
+        methodsOfTheDocument();
         classesInside();
         due.end();
     }
@@ -69,6 +77,20 @@ public final class FaceTest {
                 Modifier.isPrivate(method.getModifiers()) && names.contains(method.getName()));
         }
         due.yes("the methods are " + seen, seen.equals(new TreeSet<>(Arrays.asList(METHODS))));
+    }
+
+    /** The list above is the one that the document shows. */
+    private static void methodsOfTheDocument() throws IOException {
+        if (!Files.exists(DOCUMENT)) {
+            System.out.println("the face: " + DOCUMENT + " is not there, nothing to compare with");
+            return;
+        }
+        Set<String> shown = new TreeSet<>();
+        Matcher matcher = METHOD.matcher(Files.readString(DOCUMENT));
+        while (matcher.find()) {
+            shown.add(matcher.group(1).replaceAll("(\\w+) \\w+(?=[,)])", "$1"));
+        }
+        due.yes("the document shows " + shown, shown.equals(new TreeSet<>(Arrays.asList(METHODS))));
     }
 
     private static String signature(Method method) {
